@@ -29,6 +29,14 @@ final class Caves {
         }
     }
 
+    /** Sends one helper down from a station to another. */
+    static void walkDownFrom(CaveRelay x, int helper, int from, int to) {
+        for (int s = from + 1; s <= to; s++) {
+            x.go(helper, s);
+            x.pass(x.passage(s - 1, 1));
+        }
+    }
+
     /** One passage, a pitch that helper 0 rigs with rope 0; the helpers stand at the surface, at the time 10. */
     static CaveRelay riggedPitch(int drop, int minutes, int helpers, int limit) {
         CaveRelay x = new CaveRelay();
