@@ -7,6 +7,7 @@ public final class CaveTest {
         promise1NewObject();
         promise2Begin();
         promise2BeginMakesAllNew();
+        promise2BeginInTheMidst();
         promise3SetPassage();
         promise3SetPassageInUse();
         promise4AddRope();
@@ -39,6 +40,7 @@ public final class CaveTest {
         check.values("begin(7)", x, 7, 0, 0, 0, 7, 0, 0, 0, 0, 0, 2, 0, 0, 0);
         check.passage("begin(7)", x, 3, 35, 10, NONE, 0, NONE);
         check.passage("begin(7)", x, 4, 0, 5, NONE, 0, NONE);
+        check.passage("begin(7)", x, 5, 0, 5, NONE, 0, NONE);
         check.passage("begin(7)", x, 6, 0, 5, NONE, 0, NONE);
         x.setPassage(0, 9, 9);
         x.setPassage(6, 9, 9);
@@ -73,6 +75,60 @@ public final class CaveTest {
         check.same("begin(3): a helper", 0, x.addHelper(33));
         check.helper("begin(3)", x, 0, 33, 0, 0, NONE, 0, NONE, 0, 0, 0);
         check.same("begin(3): the text stays", 3, x.clearText());
+    }
+
+    /** The stretcher is carried, a rope is rigged, a helper rigs, and another one is too late. */
+    private static void promise2BeginInTheMidst() {
+        CaveRelay x = Caves.crawls(2, 2);
+        Caves.addHelpers(x, 6, 600);
+        Caves.walkDown(x, 4, 2);
+        x.begin(2);
+        x.setPassage(1, 5, 1);
+        x.setPassage(0, 0, 30);
+        x.addRope(70);
+        x.addRope(60);
+        x.addHelper(60);
+        Caves.addHelpers(x, 5, 600);
+        x.take(0, 0);
+        Caves.walkDown(x, 1, 1);
+        x.setPassage(0, 5, 30);
+        x.pass(32);
+        x.take(1, 1);
+        x.rig(1);
+        x.pass(10);
+        Caves.walkDownFrom(x, 1, 0, 1);
+        check.hold("something too late", x.value(13) > 0);
+        x.setSilence(5, 500);
+        x.takeOff(2);
+        x.pass(1);
+        x.rig(2);
+        x.begin(2);
+        check.values("begin in the midst", x, 2, 0, 0, 0, 2, 0, 0, 0, 0, 0, 1, 0, 0, 0);
+        check.passage("begin in the midst", x, 0, 0, 5, NONE, 0, NONE);
+        x.addRope(11);
+        x.addRope(12);
+        check.rope("a rope again", x, 0, 11, 0, 0);
+        check.rope("a rope again", x, 1, 12, 0, 0);
+        for (int h = 0; h < 6; h++) {
+            x.addHelper(31 + h);
+            check.helper("a helper again", x, h, 31 + h, 0, 0, NONE, 0, NONE, 0, 0, 0);
+        }
+        beginWhileCarrying();
+    }
+
+    private static void beginWhileCarrying() {
+        CaveRelay x = Caves.crawls(1, 2);
+        Caves.addHelpers(x, 4, 600);
+        Caves.walkDown(x, 4, 1);
+        x.carry(0b1110);
+        x.pass(1);
+        x.begin(3);
+        check.values("begin while carrying", x, 3, 0, 0, 0, 3, 0, 0, 0, 0, 0, 1, 0, 0, 0);
+        for (int h = 0; h < 4; h++) {
+            x.addHelper(40);
+            check.helper("a helper again", x, h, 40, 0, 0, NONE, 0, NONE, 0, 0, 0);
+        }
+        check.passage("nobody walks", x, 0, 0, 5, NONE, 0, NONE);
     }
 
     private static void promise3SetPassage() {

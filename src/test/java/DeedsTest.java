@@ -149,6 +149,12 @@ public final class DeedsTest {
         x.go(0, 2);
         x.pass(8);
         check.notNow("no passage below", x, () -> x.rig(0));
+        CaveRelay y = new CaveRelay();
+        y.setPassage(0, 1, 5);
+        y.addRope(10);
+        y.addHelper(100);
+        y.take(0, 0);
+        check.same("a drop of 1 is a pitch", 0, y.rig(0));
     }
 
     private static void promise10RigInTime() {
@@ -270,19 +276,29 @@ public final class DeedsTest {
         check.notNow("tiredness of 105", y, () -> y.carry(0b0111));
         y.setPassage(0, 0, 14);
         check.same("tiredness of 99", 42, y.carry(0b0111));
+        CaveRelay late = Caves.crawls(2, 5);
+        late.addHelper(30);
+        Caves.addHelpers(late, 3, 600);
+        Caves.walkDown(late, 4, 2);
+        // 10 minutes below, 15 of carrying, 5 up
+        check.same("limit 30, in time", 15, late.carry(0b0111));
+        late.undo();
+        late.pass(1);
+        check.notNow("limit 30, late", late, () -> late.carry(0b0111));
         CaveRelay z = Caves.crawls(1, 16);
         Caves.addHelpers(z, 3, 600);
         Caves.walkDown(z, 3, 1);
         z.setPassage(0, 0, 14);
         check.same("tiredness of 100", 42, z.carry(0b0111));
-        z.undo();
-        z.undo();
-        z.go(0, 0);
-        z.pass(16);
-        z.go(0, 1);
-        z.pass(16);
-        z.setPassage(0, 0, 14);
-        check.notNow("one is too tired", z, () -> z.carry(0b0111));
+        CaveRelay tired = Caves.crawls(1, 16);
+        Caves.addHelpers(tired, 3, 600);
+        Caves.walkDown(tired, 3, 1);
+        tired.go(0, 0);
+        tired.pass(16);
+        tired.go(0, 1);
+        tired.pass(16);
+        tired.setPassage(0, 0, 14);
+        check.notNow("one is too tired", tired, () -> tired.carry(0b0111));
     }
 
     private static void promise12CarryUpAPitch() {

@@ -13,6 +13,7 @@ public final class StateTest {
         promise32NoOtherCallIsSaved();
         promise32SavedEvenIfNothingChanges();
         promise32TakesBackAll();
+        promise32TakesBackEachRow();
         promise33DigestOfANewObject();
         promise33Digest();
         check.end("StateTest");
@@ -189,6 +190,70 @@ public final class StateTest {
         check.message("the message", x, 0, 3, 4, 2);
         check.helper("a carrier", x, 2, 60, 2, 1, 1, 6, -1, 4, 4, 1);
         check.rope("laid", x, 1, 30, 0, 2);
+    }
+
+    /** What was written into the rows behind the save does not shine through. */
+    private static void promise32TakesBackEachRow() {
+        CaveRelay x = new CaveRelay();
+        x.addRope(20);
+        x.addHelper(200);
+        x.take(0, 0);
+        Caves.walkDownFrom(x, 0, 0, 1);
+        x.lay(0);
+        x.begin(1);
+        x.addRope(30);
+        x.addHelper(30);
+        x.undo();
+        x.undo();
+        x.undo();
+        check.rope("the rope", x, 0, 20, 0, 1);
+        check.helper("the helper", x, 0, 200, 1, 0, -1, 0, -1, 5, 5, 0);
+        check.passage("the passage", x, 3, 35, 10, -1, 0, -1);
+        x.setPassage(0, 0, 2);
+        x.setPassage(1, 0, 1);
+        x.addHelper(60);
+        Caves.walkDownFrom(x, 1, 0, 1);
+        x.send(0);
+        Caves.walkDownFrom(x, 1, 1, 2);
+        x.send(0);
+        x.pass(5);
+        Caves.write(x, "m1;p1;m0;");
+        x.carryOut();
+        x.undo();
+        x.undo();
+        check.message("the message", x, 0, 0, 8, 1);
+        check.same("one message", 1, x.value(7));
+        takesBackTheLog();
+        takesBackMinutesLate();
+    }
+
+    private static void takesBackTheLog() {
+        CaveRelay x = Caves.crawls(2, 2);
+        Caves.addHelpers(x, 4, 100);
+        Caves.walkDown(x, 4, 2);
+        x.carry(0b0111);
+        Caves.write(x, "p6;g31;p2;c013;p1;");
+        check.same("another carry", 5, x.carryOut());
+        x.undo();
+        check.carried("the first one", x, 0, 4, 2, 0b0111);
+        check.same("one carry", 1, x.value(9));
+        check.noIndex("one is kept", x, () -> x.carried(1, 0));
+        check.same("carried", 1, x.value(5));
+    }
+
+    private static void takesBackMinutesLate() {
+        CaveRelay x = Caves.crawls(1, 2);
+        x.addHelper(30);
+        Caves.walkDown(x, 1, 1);
+        x.setPassage(0, 9, 2);
+        x.pass(30);
+        check.same("two too late", 2, x.value(13));
+        x.pass(5);
+        check.same("seven too late", 7, x.value(13));
+        x.undo();
+        check.same("two too late", 2, x.value(13));
+        x.begin(1);
+        check.same("none", 0, x.value(13));
     }
 
     private static long hash(long h, int... values) {

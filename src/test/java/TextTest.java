@@ -208,8 +208,20 @@ public final class TextTest {
         check.helper("carries", x, 3, 100, 1, 1, 0, 11, NONE, 6, 5, 1);
         check.same("the text stays", 41, x.clearText());
         Caves.write(x, "p11;");
-        check.same("three digits of minutes at most", 1, x.carryOut());
+        check.same("the rest of the way", 1, x.carryOut());
         check.same("up", 0, x.value(4));
+        CaveRelay y = Caves.crawls(1, 2);
+        Caves.addHelpers(y, 6, 100);
+        Caves.walkDown(y, 6, 1);
+        Caves.write(y, "c345;");
+        check.same("carry", 1, y.carryOut());
+        check.carried("three, without the first", y, 0, 2, 1, 0b111000);
+        y.undo();
+        Caves.write(y, "g00;c01345;c12345;p123;");
+        check.same("one of them has gone", 1, y.carryOut());
+        Caves.write(y, "c12345;p123;");
+        check.same("the others can", 2, y.carryOut());
+        check.same("123 minutes", 125, y.value(3));
     }
 
     private static void promise31StopsAtTheFirst() {

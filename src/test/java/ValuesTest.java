@@ -182,6 +182,24 @@ public final class ValuesTest {
         x.go(0, 1);
         x.pass(25);
         check.same("100 and 50", 4, x.why(0, 0));
+        CaveRelay steep = Caves.riggedPitch(30, 20, 1, 600);
+        steep.go(0, 1);
+        steep.pass(20);
+        steep.go(0, 0);
+        steep.pass(20);
+        check.same("down and up", 60, steep.helper(0, 6));
+        steep.pass(20);
+        steep.go(0, 1);
+        steep.pass(20);
+        check.same("60 and 40", 0, steep.why(0, 0));
+        CaveRelay steeper = Caves.riggedPitch(30, 20, 1, 600);
+        steeper.go(0, 1);
+        steeper.pass(20);
+        steeper.go(0, 0);
+        steeper.pass(39);
+        steeper.go(0, 1);
+        steeper.pass(20);
+        check.same("61 and 40", 4, steeper.why(0, 0));
         CaveRelay y = Caves.crawls(1, 25);
         y.addHelper(600);
         for (int i = 0; i < 2; i++) {

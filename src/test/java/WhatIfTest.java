@@ -91,6 +91,8 @@ public final class WhatIfTest {
         check.same("none is long enough", NONE, x.bestRope(3));
         x.addRope(63);
         check.same("60 and 3", 5, x.bestRope(3));
+        x.setPassage(2, 1, 6);
+        check.same("a drop of 1, and rope 0", 0, x.bestRope(2));
     }
 
     private static void promise25CarryMinutes() {
@@ -155,6 +157,13 @@ public final class WhatIfTest {
         check.same("41 minutes, limit 40", 0b110, x.team());
         x.pass(1);
         check.same("42 minutes, limit 41", 0b100, x.team());
+        CaveRelay deep = Caves.crawls(2, 5);
+        deep.addHelper(30);
+        deep.addHelper(31);
+        Caves.walkDown(deep, 2, 2);
+        check.same("10 below, 15 and 5 up", 0b11, deep.team());
+        deep.pass(1);
+        check.same("31 minutes, limit 30", 0b10, deep.team());
         CaveRelay y = Caves.crawls(1, 10);
         Caves.addHelpers(y, 2, 600);
         Caves.walkDown(y, 1, 1);
