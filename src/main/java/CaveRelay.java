@@ -1262,7 +1262,7 @@ public final class CaveRelay {
             if (digits == 0 || digitAt(at + digits) != NONE) {
                 return wrongAt(at + digits);
             }
-            int number = numberAt(at);
+            int number = numberOf(at, digits);
             return number < 1 || number > LONGEST_PASS ? wrongAt(at) : behindEnd(at + digits);
         }
 
@@ -1276,8 +1276,11 @@ public final class CaveRelay {
         }
 
         int numberAt(int at) {
+            return numberOf(at, digitsOfNumber(at));
+        }
+
+        private int numberOf(int at, int digits) {
             int number = 0;
-            int digits = digitsOfNumber(at);
             for (int i = 0; i < digits; i++) {
                 number = 10 * number + digitAt(at + i);
             }
