@@ -219,6 +219,7 @@ final class TextEdges {
         wrong(check, 1, "p0;");
         wrong(check, 1, "p601;");
         wrong(check, 1, "p;");
+        wrong(check, 1, "p;555");
         wrong(check, 4, "p0001;");
         wrong(check, 4, "p1000;");
     }

@@ -53,6 +53,7 @@ final class WhatIfEdges {
         e.promise(27, "0 at station 0", WhatIfEdges::reachAtTheSurface);
         e.promise(27, "NONE if the helper does not stand", WhatIfEdges::reachNotStanding);
         e.promise(27, "or it would be more than 1000", WhatIfEdges::reachThousand);
+        e.promise(27, "Returns the minutes", WhatIfEdges::reachForNoOtherReason);
         e.promise(27, "if there is no such helper", WhatIfEdges::reachNoHelper);
         e.promise(28, "Returns the mean tiredness of the helpers.", WhatIfEdges::meanUntouched);
         e.promise(28, "converted to double, divided by the number of helpers", WhatIfEdges::meanOfSome);
@@ -515,6 +516,27 @@ final class WhatIfEdges {
         CaveRelay x = silent(0, 1004);
         x.pass(1);
         check.same("a minute later", 1000, x.reach(0));
+    }
+
+    /** Only two reasons for NONE are told: that the message could not be sent, or not come in time, is none of them. */
+    private static void reachForNoOtherReason(Checks check) {
+        CaveRelay x = Caves.standing(3, 3);
+        for (int i = 0; i < 10; i++) {
+            x.send(0);
+        }
+        check.notNow("an eleventh", x, () -> x.send(0));
+        check.same("10 on their way", 3, x.reach(0));
+        CaveRelay y = Caves.standing(3, 3);
+        // so that the helper does not go up
+        y.setPassage(2, 60, 2);
+        while (y.value(3) < 99999) {
+            y.pass(Math.min(600, 99999 - y.value(3)));
+        }
+        check.same("behind the end of the time", 3, y.reach(0));
+        y.setSilence(0, 100000);
+        check.same("behind a silence up to its end", 4, y.reach(0));
+        y.pass(1);
+        check.same("at its end", 3, y.reach(0));
     }
 
     private static void reachNoHelper(Checks check) {
